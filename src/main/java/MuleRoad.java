@@ -9,6 +9,9 @@ public final class MuleRoad {
     private static final int MOST_TRAINS = 4;
     private static final int MULES = 3;
     private static final int MOST_PACKS = 100;
+    private static final int MOST_WEIGHT = 60;
+    private static final int LEAST_STRENGTH = 20;
+    private static final int MOST_STRENGTH = 120;
     private static final int MOST_BARGAINS = 10;
     private static final int MOST_RULES = 20;
     private static final int MOST_TERMS = 4;
@@ -106,7 +109,7 @@ public final class MuleRoad {
         if (!road.hasInn(inn) || !road.hasInn(other) || inn == other) {
             return NONE;
         }
-        if (kind < 0 || kind > GLASS || weight < 1 || weight > 60 || packCount >= MOST_PACKS) {
+        if (kind < 0 || kind > GLASS || weight < 1 || weight > MOST_WEIGHT || packCount >= MOST_PACKS) {
             return NONE;
         }
         packs[packCount] = new Pack(kind, weight, inn, other, hour);
@@ -343,7 +346,7 @@ public final class MuleRoad {
     }
 
     private static boolean isStrength(int n) {
-        return n >= 20 && n <= 120;
+        return n >= LEAST_STRENGTH && n <= MOST_STRENGTH;
     }
 
     private Train trainAt(int n) {
@@ -864,7 +867,7 @@ public final class MuleRoad {
             size = 0;
             behind = 0;
             int type = BAD;
-            while (type != END && size <= MOST_BYTES) {
+            for (int n = 0; n <= MOST_BYTES && type != END; n++) {
                 type = cutToken();
             }
         }

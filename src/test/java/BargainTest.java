@@ -12,6 +12,7 @@ public final class BargainTest {
         texts();
         faults();
         tooMany();
+        fullTapes();
         everyByte();
         numbersAndPlaces();
         inForce();
@@ -86,6 +87,15 @@ public final class BargainTest {
         faultOf("x", 1, 0);
         faultOf(" sal", 1, 1);
         faultOf("salts:1;", 1, 0);
+        faultOf("saltz:1;", 1, 0);
+        faultOf("asalt:1;", 1, 0);
+        for (String word : new String[] {"talt", "sant", "sald", "fire", "wirf", "nail", "maid", "class", "glasz",
+            "height<1", "weighs<1", "yours<1", "hourt<1", "weld<1", "helm<1"}) {
+            faultOf(word + ":1;", 1, 0);
+            faultOf("salt and " + word + ":1;", 1, 9);
+        }
+        faultOf("salt end wire:1;", 1, 5);
+        faultOf("salt any wire:1;", 1, 5);
         faultOf("saltand wire:1;", 1, 0);
         faultOf("Salt:1;", 1, 0);
         faultOf("saLt:1;", 1, 0);
@@ -129,6 +139,18 @@ public final class BargainTest {
         faultOf("gla.", 1, 0);
         faultOf(":1234" + (char) 233, 1, 5);
         faultOf(":12345" + (char) 233, 1, 1);
+    }
+
+    /** As many tokens as a tape can have, and the longest of them. */
+    private static void fullTapes() {
+        faultOf(";".repeat(400), 1, 0);
+        faultOf(":".repeat(400), 1, 1);
+        faultOf("-".repeat(399) + " ", 1, 0);
+        faultOf("a".repeat(400), 1, 0);
+        faultOf("7".repeat(400), 1, 0);
+        faultOf(":" + "7".repeat(399), 1, 1);
+        faultOf(" ".repeat(399) + ":", 1, 400);
+        faultOf(" ".repeat(399) + ";", 1, 399);
     }
 
     private static void tooMany() {

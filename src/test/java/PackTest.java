@@ -258,5 +258,11 @@ public final class PackTest {
         x.hours(1);
         DUE.is("was(0, 0) after 500 moves", x.was(0, 0), 10);
         DUE.is("was(1, 1) after 500 moves", x.was(1, 1), 0);
+        // What is answered beyond the 512th call is free, but none may throw.
+        for (int i = 0; i < 2000; i++) {
+            x.lay(0, 1, 0, 1);
+            x.down(1);
+            x.was(1, 1);
+        }
     }
 }

@@ -139,6 +139,15 @@ public final class TrainTest {
         x.go(0, false);
         x.hours(1);
         tiredAre(x, "down tires as up does", 10, 14, 2);
+        MuleRoad y = Due.road(Due.leg(1, 7, 0));
+        y.string(0, 120, 120, 120);
+        for (int i = 0; i < 2; i++) {
+            y.pack(0, 1, 0, 50);
+            y.lay(0, 0, i, i);
+        }
+        y.go(0, true);
+        y.hours(1);
+        tiredAre(y, "100 * 7 by 100, nothing to cut", 9, 2, 2);
     }
 
     private static void lame() {
