@@ -6,11 +6,17 @@ import java.util.NoSuchElementException;
 final class Due {
     static final int THROWS = Integer.MIN_VALUE;
     private int wrong = 0;
+    private String sentence = "";
+
+    /** The sentence of the document that is tested from here on. */
+    void sentence(String words) {
+        sentence = "[" + words + "] ";
+    }
 
     void is(String call, int got, int want) {
         if (got != want) {
             wrong++;
-            System.out.println(call + " answered " + got + ", due is " + want);
+            System.out.println(sentence + call + " answered " + got + ", due is " + want);
         }
     }
 
