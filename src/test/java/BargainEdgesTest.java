@@ -36,6 +36,8 @@ public final class BargainEdgesTest {
         inForceAsItCame();
         nothingWithoutBargain();
         relations();
+        eachKind();
+        faultLeavesNothing();
         lessThose();
         allTermsHold();
         brings();
@@ -270,6 +272,14 @@ public final class BargainEdgesTest {
         fault("sAlt:1;", 1, 0);
         fault("SALT:1;", 1, 0);
         fault("a".repeat(400), 1, 0);
+        for (String word : new String[] {"salt", "wire", "mail", "glass", "weight<1", "hours<1", "held<1"}) {
+            for (int i = 0; i < word.length() && word.charAt(i) >= 'a'; i++) {
+                fault(word.substring(0, i) + 'z' + word.substring(i + 1) + ":1;", 1, 0);
+            }
+        }
+        for (String word : new String[] {"znd", "azd", "anz", "an", "andz"}) {
+            fault("salt " + word + " wire:1;", 1, 5);
+        }
         good("held<5and salt:1;");
         fault("held5:1;", 1, 4);
     }
@@ -537,12 +547,52 @@ public final class BargainEdgesTest {
                 DUE.is(words[i] + "=" + n, paid(words[i] + "=" + n + ":1;"), values[i] == n ? 1 : 0);
                 DUE.is(words[i] + ">" + n, paid(words[i] + ">" + n + ":1;"), values[i] > n ? 1 : 0);
             }
-            DUE.is(words[i] + " with zeros ahead", paid(words[i] + "=" + (values[i] < 10 ? "000" : "00") + values[i] + ":1;"), 1);
+            String zeros = values[i] < 10 ? "=000" : "=00";
+            DUE.is(words[i] + " with zeros ahead", paid(words[i] + zeros + values[i] + ":1;"), 1);
         }
         DUE.is("salt", paid("salt:1;"), 0);
         DUE.is("wire", paid("wire:1;"), 1);
         DUE.is("mail", paid("mail:1;"), 0);
         DUE.is("glass", paid("glass:1;"), 0);
+    }
+
+    private static void eachKind() {
+        DUE.sentence("a KIND (0 salt, 1 wire, 2 mail, 3 glass)");
+        MuleRoad x = Due.road(Due.leg(1, 0, 0));
+        x.string(0, 60, 60, 60);
+        Due.tell(x, "salt:1;wire:20;mail:300;glass:4000;");
+        for (int kind = 0; kind < 4; kind++) {
+            x.pack(0, 1, kind, 1);
+            x.lay(0, 0, kind == 3 ? 2 : 0, kind);
+        }
+        x.go(0, true);
+        x.hours(1);
+        int[] want = {1, 20, 300, 4000};
+        for (int kind = 0; kind < 4; kind++) {
+            x.down(kind);
+            DUE.is("brought(" + kind + ")", Due.brought(x, kind), want[kind]);
+        }
+        DUE.is("count(9)", x.count(9), 4321);
+    }
+
+    private static void faultLeavesNothing() {
+        DUE.sentence("15: with a FAULT it is no BARGAIN");
+        MuleRoad x = Due.road(Due.leg(1, 0, 0));
+        x.string(0, 60, 60, 60);
+        Due.tell(x, ":100;wire:200;!");
+        Due.tell(x, ":400;salt and wire");
+        x.pack(0, 1, 0, 1);
+        DUE.is("of(0, 7)", x.of(0, 7), -1);
+        x.hours(1);
+        DUE.is("a bargain behind faults", Due.tell(x, ":1;salt:2;"), 0);
+        x.pack(0, 1, 0, 1);
+        Due.tell(x, ":800;" + ":1;".repeat(20));
+        DUE.is("of(1, 7)", x.of(1, 7), 0);
+        x.lay(0, 0, 0, 1);
+        x.go(0, true);
+        x.hours(1);
+        x.down(1);
+        DUE.is("brought(1)", Due.brought(x, 1), 3);
     }
 
     private static void lessThose() {

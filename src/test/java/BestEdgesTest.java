@@ -190,6 +190,7 @@ public final class BestEdgesTest {
         bestIs(with(120, 30, 30, 30, 30), "30 each", 120, 0, 0, 1, 1);
         bestIs(with(120, 12, 12, 12, 12, 12, 12, 12, 12, 12, 12), "ten of 12", 120, 0, 0, 0, 0, 0, 1, 1, 1, 1, 1);
         bestIs(with(120, 5, 5, 5, 5, 5, 5), "ten apart", 30, 0, 0, 0, 0, 1, 1);
+        bestIs(with(120, 1, 20, 7, 7, 7), "the second on the left, more on the right", 42, 0, 0, 1, 1, 1);
     }
 
     private static void aheadOfNotAtAll() {

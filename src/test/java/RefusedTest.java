@@ -20,7 +20,7 @@ public final class RefusedTest {
         DUE.end();
     }
 
-    /** In hour 10, with a tape and a fault's place: string 2 came to inn 2 with a lame mule, string 0 to inn 1 with a pack. */
+    /** In hour 10, with a tape and a fault's place: string 2 came to inn 2 with a lame mule, string 0 to inn 1. */
     private static MuleRoad rich() {
         MuleRoad x = Due.road(Due.leg(9, 5, 1), Due.leg(9, 9, 0));
         x.string(0, 50, 20, 120);
@@ -51,9 +51,9 @@ public final class RefusedTest {
     }
 
     /**
-     * In hour 20: string 0 at inn 0 with packs 0 (left) and 1 (top) on mule 0, string 1 on the ledge, leg 0, string 2 at inn 2,
-     * its mule 2 lame under packs 2 and 3; packs 4, 7 (glass) and 8 (heavy) wait at inn 0, pack 6 at inn 2, pack 5 is
-     * delivered to inn 1; leg 1 is shut.
+     * In hour 20: string 0 at inn 0 with packs 0 (left) and 1 (top) on mule 0, string 1 on the ledge, leg 0, string 2 at
+     * inn 2, its mule 2 lame under packs 2 and 3; packs 4, 7 (glass) and 8 (heavy) wait at inn 0, pack 6 at inn 2, pack 5
+     * is delivered to inn 1; leg 1 is shut.
      */
     private static MuleRoad richer() {
         MuleRoad x = rich();
